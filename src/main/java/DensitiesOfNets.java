@@ -447,7 +447,9 @@ public final class DensitiesOfNets {
             if (isBeyond(a, e) || isBeyond(b, f)) {
                 return false;
             }
-            become(a * e, b * f);
+            long common = greatestIn(a * e, b * f);
+            above = a * e / common;
+            below = b * f / common;
             return true;
         }
 
