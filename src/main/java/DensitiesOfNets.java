@@ -991,7 +991,7 @@ public final class DensitiesOfNets {
         }
     }
 
-    /** What is done with SUMS; where it is OVER, what it was to be put into is left as it comes. */
+    /** What is done with SUMS; what is refused leaves what it was to be put into as it was. */
     private static final class Algebra {
         private final Family flags;
         private final Family roots;
