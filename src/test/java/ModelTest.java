@@ -18,6 +18,9 @@ public final class ModelTest {
     private static final Map<String, Integer> seen = new TreeMap<>();
 
     public static void main(String[] args) {
+        everyJoint(FLAGS);
+        everyJoint(ROOTS);
+        everyShortText();
         for (int run = 0; run < RUNS && wrong == 0; run++) {
             new Run(run).go();
         }
@@ -992,6 +995,75 @@ public final class ModelTest {
             }
             return in(what, 0, 2) ? new long[] {tape.length(), held, terms}[what] : -1;
         }
+    }
+
+    // ---- all that there is of a kind
+
+    private static void agree(String call, long got, long want) {
+        if (got != want && wrong < 5) {
+            wrong++;
+            System.out.println(call + " answered " + got + ", the model says " + want);
+        }
+    }
+
+    private static void everyJoint(Kind kind) {
+        Model model = new Model();
+        for (int one = 0; one < kind.many(); one++) {
+            for (int other = 0; other < kind.many(); other++) {
+                DensitiesOfNets real = new DensitiesOfNets();
+                for (int in = 0; in < kind.many(); in++) {
+                    for (int part = 0; part < 2; part++) {
+                        long got = kind.isRooted ? real.jointRooted(one, other, in, part)
+                            : real.joint(one, other, in, part);
+                        long want = model.joint(kind, one, other, in, part);
+                        agree("joint(" + one + ", " + other + ", " + in + ", " + part + ")", got, want);
+                        if (!kind.isRooted && one == 0) {
+                            agree("inside(" + other + ", " + in + ", " + part + ")", real.inside(other, in, part),
+                                want);
+                        }
+                    }
+                }
+            }
+        }
+    }
+
+    /** All texts of up to four of these signs, a figure standing for others; behind some beginnings, too. */
+    private static void everyShortText() {
+        String signs = "013+-*/()[]{}<>";
+        String[] beginnings = {"", "1/", "[2", "<20", "(((", "({1", "{<1>", "[4]*", "12", "[10101010", "1+(0/1)*"};
+        for (String beginning : beginnings) {
+            int most = beginning.isEmpty() ? 4 : 3;
+            for (int length = 0; length <= most; length++) {
+                int all = (int) Math.pow(signs.length(), length);
+                DensitiesOfNets real = new DensitiesOfNets();
+                int calls = 0;
+                for (int i = 0; i < all; i++) {
+                    StringBuilder text = new StringBuilder(beginning);
+                    for (int at = 0, rest = i; at < length; at++, rest /= signs.length()) {
+                        text.append(signs.charAt(rest % signs.length()));
+                    }
+                    if (calls > CALLS - 20) {
+                        real = new DensitiesOfNets();
+                        calls = 0;
+                    }
+                    readBoth(real, text.toString());
+                    calls += text.length() + 1;
+                }
+            }
+        }
+    }
+
+    private static void readBoth(DensitiesOfNets real, String text) {
+        long want;
+        try {
+            want = Parser.sumOf(text).terms.size();
+        } catch (Fault fault) {
+            want = -1000 * fault.kind - fault.place;
+        }
+        for (int i = 0; i < text.length(); i++) {
+            real.feed(text.charAt(i));
+        }
+        agree("read of " + text, real.read(0), want);
     }
 
     // ---- runs
