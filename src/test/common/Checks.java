@@ -173,7 +173,8 @@ final class Checks {
     }
 
     /** A call answers as due, and leaves all as it was. */
-    static void leavesAll(String call, Supplier<DensitiesOfNets> made, long want, ToLongFunction<DensitiesOfNets> asked) {
+    static void leavesAll(String call, Supplier<DensitiesOfNets> made, long want,
+            ToLongFunction<DensitiesOfNets> asked) {
         DensitiesOfNets x = made.get();
         due(call, asked.applyAsLong(x), want);
         isAs(call, x, made.get());

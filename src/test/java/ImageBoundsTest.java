@@ -1,4 +1,4 @@
-/** Promises 31 to 33: THE IMAGE that there is not yet, that is taken again, of nothing and of all; and what is counted. */
+/** Promises 31 to 33: THE IMAGE that is not yet there, taken again, of nothing and of all; and what is counted. */
 public final class ImageBoundsTest {
     private static final String ALL_FLAGS = "(1+[1]+[2]+[201])*(1+[1]+[2]+[201])";
     private static final String ALL_ROOTED = "(1+<2>+<201>)*(1+<2>+<201>)*(1+<2>+<201>)";

@@ -14,6 +14,8 @@ import java.util.TreeSet;
 public final class ModelTest {
     private static final int RUNS = 1500;
     private static final int CALLS = 512;
+    /** A text is fed and read, then a STORE is looked at. */
+    private static final int MOST_OF_A_TURN = 90;
     private static int wrong = 0;
     private static final Map<String, Integer> seen = new TreeMap<>();
 
@@ -49,7 +51,8 @@ public final class ModelTest {
         "average -1", "average -2", "average -3", "average -6", "average done",
         "bound NO", "bound done", "bound over", "value NO", "value done", "value over",
         "valueAt NO", "valueAt done", "valueAt over",
-        "film -1", "film -3", "film done", "feed -4", "feed -2", "points -2", "line -1", "line -2", "found -5", "rank -3", "back -3", "sum -5", "sum -3",
+        "film -1", "film -3", "film done", "feed -4", "feed -2", "points -2", "line -1", "line -2",
+        "found -5", "rank -3", "back -3", "sum -5", "sum -3",
         "term -1", "term -3",
     };
 
@@ -1136,7 +1139,7 @@ public final class ModelTest {
             if (isLarge) {
                 askAtOnce();
             }
-            while (calls < CALLS && wrong == 0) {
+            while (calls < CALLS - MOST_OF_A_TURN && wrong == 0) {
                 int which = random.nextInt(40);
                 if (which < 10) {
                     askNet(which);
@@ -1410,7 +1413,8 @@ public final class ModelTest {
         }
 
         void writeNet(StringBuilder text, boolean isRooted) {
-            int size = random.nextInt(60) == 0 ? random.nextInt(10) : 1 + random.nextInt(random.nextInt(3) == 0 ? 4 : 2);
+            int size = random.nextInt(60) == 0 ? random.nextInt(10)
+                : 1 + random.nextInt(random.nextInt(3) == 0 ? 4 : 2);
             text.append(isRooted ? '<' : '[').append(size);
             for (int i = random.nextInt(4); i > 0 && size > 1; i--) {
                 int a = random.nextInt(size);

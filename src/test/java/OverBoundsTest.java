@@ -440,7 +440,8 @@ public final class OverBoundsTest {
     }
 
     /** The least and the greatest of [2] and [201] that STORE 0 holds. */
-    private static void bounds(DensitiesOfNets x, String which, long least, long leastBelow, long most, long mostBelow) {
+    private static void bounds(DensitiesOfNets x, String which, long least, long leastBelow, long most,
+            long mostBelow) {
         Checks.fraction("least of " + which, x.bound(0, 2, 0, 0), x.bound(0, 2, 0, 1), least, leastBelow);
         Checks.fraction("greatest of " + which, x.bound(0, 2, 1, 0), x.bound(0, 2, 1, 1), most, mostBelow);
     }
@@ -550,7 +551,8 @@ public final class OverBoundsTest {
 
     private static void nothingIsOverByZero() {
         Checks.about("if that isn't 0; what comes to 0 is no TERM");
-        DensitiesOfNets x = Checks.holding(Checks.GREATEST + "*[1]", Checks.LEAST + "*[2]", Checks.FINEST + "*[2]", "0");
+        DensitiesOfNets x = Checks.holding(Checks.GREATEST + "*[1]", Checks.LEAST + "*[2]", Checks.FINEST + "*[2]",
+            "0");
         for (int store = 0; store < 3; store++) {
             Checks.due("times 0", x.makes(store, 3, Checks.TIMES, 3), 0);
             Checks.due("0 times", x.makes(3, store, Checks.TIMES, 3), 0);

@@ -22,11 +22,13 @@ public final class SumBoundsTest {
         makesTwoAtOnce();
         makesIntoOneOfBoth();
         makesWithoutTerms();
+        makesToNothing();
         liftNumbers();
         liftSizes();
         liftBad();
         liftTwoAtOnce();
         averageNumbers();
+        averageWithoutTerms();
         averageEach();
         boundNumbers();
         boundSizes();
@@ -41,6 +43,7 @@ public final class SumBoundsTest {
         filmNumbers();
         filmPoints();
         filmShares();
+        filmIsOfFlags();
         Checks.end();
     }
 
@@ -357,6 +360,17 @@ public final class SumBoundsTest {
         Checks.due("of FLAGS", x.makes(3, 0, Checks.PLUS, 3), Checks.BAD);
     }
 
+    private static void makesToNothing() {
+        Checks.about("what comes to 0 is no TERM");
+        DensitiesOfNets x = Checks.holding("1-[1]", "1+[1]", "<2>-<1>", "<2>+<1>");
+        Checks.due("TIMES", x.makes(0, 1, Checks.TIMES, 0), 3);
+        Checks.holds(x, 0, 0, 1, 1, 2, -1, 1, 3, -1, 1);
+        Checks.due("TIMES at the root", x.makes(2, 3, Checks.TIMES, 2), 3);
+        Checks.holds(x, 2, 0, -1, 1, 3, 1, 1, 6, 1, 1);
+        Checks.due("PLUS", x.makes(1, 0, Checks.LESS, 1), 3);
+        Checks.holds(x, 1, 1, 1, 1, 2, 1, 1, 3, 1, 1);
+    }
+
     // ---- lift, average
 
     private static void liftNumbers() {
@@ -383,7 +397,8 @@ public final class SumBoundsTest {
             Checks.due("without TERMS to " + size, x.lift(3, size), 0);
             Checks.due("SIZE", x.sum(0, 2), size);
             Checks.due("ROOTED", x.sum(1, 1), 1);
-            Checks.fraction("the last", x.coefficient(0, flags[size] - 1, 0), x.coefficient(0, flags[size] - 1, 1), 1, 2);
+            int last = flags[size] - 1;
+            Checks.fraction("the last", x.coefficient(0, last, 0), x.coefficient(0, last, 1), 1, 2);
             Checks.due("again", x.lift(0, size), flags[size]);
         }
         DensitiesOfNets x = Checks.holding("[3]", "<3>", "[4]-[3]", "<4>-<3>");
@@ -462,6 +477,21 @@ public final class SumBoundsTest {
         for (String text : none) {
             Checks.leavesAll("average of " + text, () -> Checks.holding(text), 0, z -> z.average(0));
         }
+    }
+
+    private static void averageWithoutTerms() {
+        Checks.about("average of a SUM without TERMS: it stays, whatever was worked out before");
+        DensitiesOfNets x = Checks.holding("1+[1]", "<1>-<1>", "<301>");
+        x.makes(0, 0, Checks.TIMES, 3);
+        Checks.due("behind makes", x.average(1), 0);
+        Checks.holds(x, 1);
+        x.lift(0, 2);
+        Checks.due("behind lift", x.average(1), 0);
+        x.average(2);
+        Checks.due("behind another one", x.average(1), 0);
+        Checks.holds(x, 1);
+        Checks.holds(x, 2, 5, 2, 3);
+        Checks.due("of neither kind", x.makes(1, 2, Checks.PLUS, 1), 1);
     }
 
     private static void averageEach() {
@@ -732,5 +762,20 @@ public final class SumBoundsTest {
         DensitiesOfNets full = Checks.fullNet(8);
         Checks.due("film(3, 4)", full.film(3, 4), 1);
         Checks.holds(full, 3, 18, 1, 1);
+    }
+
+    private static void filmIsOfFlags() {
+        Checks.about("film: a SUM of FLAGS");
+        for (int size = 0; size <= 4; size++) {
+            DensitiesOfNets x = Checks.holding(null, "<1>");
+            x.points(8);
+            Checks.due("film(0, " + size + ")", x.film(0, size), 1);
+            Checks.due("sum(0, 1)", x.sum(0, 1), 0);
+            Checks.due("sum(0, 2)", x.sum(0, 2), size);
+            Checks.due("average(0)", x.average(0), Checks.BAD);
+            Checks.due("with a ROOTED one", x.makes(0, 1, Checks.PLUS, 2), Checks.BAD);
+            Checks.due("valueAt(0, 0, 0)", x.valueAt(0, 0, 0), Checks.NO);
+            Checks.due("value(0, 0)", x.value(0, 0), 1);
+        }
     }
 }
