@@ -152,8 +152,14 @@ public final class HandBoundsTest {
             Checks.due("beside the one", x.beside(a) >> b & 1, 1);
             Checks.due("beside the other one", x.beside(b) >> a & 1, 1);
             Checks.due("it is taken away from the other end", x.line(b, a, 0), 1);
+            Checks.due("no more beside the one", x.beside(a), 0);
+            Checks.due("no more beside the other one", x.beside(b), 0);
             Checks.due("it is taken away again", x.line(a, b, 0), 0);
             Checks.due("told(1)", x.told(1), 0);
+            Checks.due("it is drawn from the other end", x.line(b, a, 1), 0);
+            Checks.due("it is taken away from the one", x.line(a, b, 0), 1);
+            Checks.due("no more beside the one", x.beside(a), 0);
+            Checks.due("no more beside the other one", x.beside(b), 0);
         }
     }
 
@@ -181,6 +187,7 @@ public final class HandBoundsTest {
         tells(Checks.net(3), "three POINTS", 3, 0, 0, 1);
         tells(Checks.net(3, 1, 2), "three POINTS, a LINE", 3, 1, 1, 0);
         tells(Checks.net(3, 0, 2, 1, 2), "three POINTS, two LINES", 3, 2, 2, 0);
+        tells(Checks.net(3, 0, 1, 0, 2), "three POINTS, two LINES at the first", 3, 2, 2, 0);
         tells(Checks.fullNet(3), "three POINTS, all LINES", 3, 3, 2, 1);
         // 0 1 2 has all, 0 1 3 and 0 2 3 and 1 2 3 have one
         tells(Checks.net(4, 0, 1, 0, 2, 1, 2), "four POINTS", 4, 3, 2, 1);
@@ -192,6 +199,7 @@ public final class HandBoundsTest {
         tells(Checks.net(8), "no LINES", 8, 0, 0, 56);
         // sets of three without POINT 7 have none
         tells(Checks.net(8, 7, 0, 7, 1, 7, 2, 7, 3, 7, 4, 7, 5, 7, 6), "all at the last", 8, 7, 7, 35);
+        tells(Checks.net(8, 0, 1, 0, 2, 0, 3, 0, 4, 0, 5, 0, 6, 0, 7), "all at the first", 8, 7, 7, 35);
         tells(Checks.net(8, 6, 7), "one LINE between the last", 8, 1, 1, 50);
     }
 

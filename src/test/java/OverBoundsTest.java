@@ -42,6 +42,7 @@ public final class OverBoundsTest {
         averageSum();
         boundIsOver();
         boundOfFarOnes();
+        boundOfSmallOnes();
         valueAboveAndBelow();
         valueSum();
         valueAtAboveAndBelow();
@@ -102,6 +103,10 @@ public final class OverBoundsTest {
         isOver(Checks.LEAST, Checks.LESS, "1");
         isOver(Checks.LEAST, Checks.PLUS, Checks.LEAST);
         comesTo(Checks.GREATEST, Checks.PLUS, Checks.LEAST, -1, 1);
+        // 6148914691236517205, whose bits and those of twice as much are the opposite of one another
+        String third = "5*17*257*641*(65*999+602)*((6*999+713)*999+124)";
+        isOver(third, Checks.PLUS, third);
+        comesTo(third, Checks.PLUS, Checks.LEAST, LEAST / 3 - 1, 1);
         comesTo(Checks.LEAST, Checks.PLUS, Checks.GREATEST, -1, 1);
         DensitiesOfNets x = Checks.holding(Checks.GREATEST, "0-" + Checks.GREATEST);
         Checks.due("to nothing", x.makes(0, 0, Checks.LESS, 2), 0);
@@ -469,6 +474,49 @@ public final class OverBoundsTest {
             bounds(added("2" + one, "7/3" + other), "a whole one", 2, 1, 7, 3);
             bounds(added("0-2" + one, "0-7/3" + other), "a whole one less than 0", -7, 3, -2, 1);
         }
+    }
+
+    private static void boundOfSmallOnes() {
+        Checks.about("the least, the greatest, of all by up to 9, and of those hard to tell apart");
+        for (int b = 1; b <= 9; b++) {
+            for (int d = 1; d <= 9; d++) {
+                for (int a = -9; a <= 9; a++) {
+                    for (int c = a; c <= 9; c += 2) {
+                        smallBounds(a, b, c, d);
+                    }
+                }
+            }
+        }
+        int one = 1;
+        int next = 1;
+        int third = 2;
+        while (third < 999) {
+            smallBounds(next, one, third, next);
+            smallBounds(third, next, next, one);
+            smallBounds(-next, one, -third, next);
+            smallBounds(next, third, one, next);
+            one = next;
+            next = third;
+            third = one + next;
+        }
+    }
+
+    private static void smallBounds(int a, int b, int c, int d) {
+        DensitiesOfNets x = Checks.holding(text(a, b) + "*[2]+" + text(c, d) + "*[201]");
+        boolean isLess = a * d < c * b;
+        for (int which = 0; which <= 1; which++) {
+            boolean isFirst = which == 0 == isLess;
+            int above = isFirst ? a : c;
+            int below = isFirst ? b : d;
+            long gotAbove = x.bound(0, 2, which, 0);
+            long gotBelow = x.bound(0, 2, which, 1);
+            Checks.must("bound " + which + " of " + a + "/" + b + " and " + c + "/" + d,
+                    gotBelow > 0 && gotAbove * below == above * gotBelow);
+        }
+    }
+
+    private static String text(int above, int below) {
+        return above < 0 ? "(0-" + -above + "/" + below + ")" : above + "/" + below;
     }
 
     // ---- value, valueAt

@@ -28,6 +28,7 @@ public final class SumBoundsTest {
         liftBad();
         liftTwoAtOnce();
         averageNumbers();
+        averageOfNegativeOnes();
         averageWithoutTerms();
         averageEach();
         boundNumbers();
@@ -477,6 +478,19 @@ public final class SumBoundsTest {
         for (String text : none) {
             Checks.leavesAll("average of " + text, () -> Checks.holding(text), 0, z -> z.average(0));
         }
+    }
+
+    private static void averageOfNegativeOnes() {
+        Checks.about("AVERAGED: each TERM, also less than 0");
+        DensitiesOfNets x = Checks.holding("0-<301>", "<1>-1/2*<301>", "<301>-<312>", "0-<1>");
+        Checks.due("-1", x.average(0), 1);
+        Checks.holds(x, 0, 5, -2, 3);
+        Checks.due("-1 by 2", x.average(1), 2);
+        Checks.holds(x, 1, 1, 1, 1, 5, -1, 3);
+        Checks.due("1 less 1", x.average(2), 1);
+        Checks.holds(x, 2, 5, 1, 3);
+        Checks.due("-1", x.average(3), 1);
+        Checks.holds(x, 3, 1, -1, 1);
     }
 
     private static void averageWithoutTerms() {

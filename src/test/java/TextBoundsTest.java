@@ -20,6 +20,7 @@ public final class TextBoundsTest {
         numberBehindTheLine();
         networkFigures();
         threeOpen();
+        deepest();
         closing();
         noSuchNetwork();
         sizesOfNetworks();
@@ -35,6 +36,7 @@ public final class TextBoundsTest {
         atLastFlags();
         orderOfSigns();
         termsOfRead();
+        nothingIsLeftOver();
         Checks.end();
     }
 
@@ -328,6 +330,17 @@ public final class TextBoundsTest {
         Checks.reads("(1)*(1)*(1)*(1)*(1)", 1);
     }
 
+    private static void deepest() {
+        Checks.about("3 are open, and a SUM, a PRODUCT and a ONE wait in each");
+        DensitiesOfNets x = Checks.holding("2+3*(5+7*(11+13*(17+19*23)))", "2-3*{5-7*(11-13*(17-19*<1>))}",
+            "(1-2*(3-4*(5-6*7)))*1/8", "1+[1]*([1]+[1]*(2+3*([1]-4*[1])))");
+        Checks.holds(x, 0, 0, 2 + 3 * (5 + 7 * (11 + 13 * (17 + 19 * 23))), 1);
+        Checks.holds(x, 1, 0, 2, 1, 1, -3 * (5 - 7 * (11 - 13 * (17 - 19))), 1);
+        Checks.holds(x, 2, 0, 1 - 2 * (3 - 4 * (5 - 6 * 7)), 8);
+        // 1, 1 + 2 = 3 times two POINTS, -9 times three
+        Checks.holds(x, 3, 0, 1, 1, 2, 3, 1, 3, 3, 1, 4, -9, 1, 5, -9, 1, 6, -9, 1, 7, -9, 1);
+    }
+
     private static void closing() {
         Checks.about("what is open is closed by its like");
         Checks.reads(")", -1000);
@@ -602,5 +615,28 @@ public final class TextBoundsTest {
         Checks.reads("(1+[1]+[2]+[201])*(1+[1]+[2]+[201])", 19);
         Checks.reads("(1+<2>+<201>)*(1+<2>+<201>)*(1+<2>+<201>)", 29);
         Checks.reads("1+[1]*0", 1);
+    }
+
+    private static void nothingIsLeftOver() {
+        Checks.about("what one TEXT told doesn't come to the next one");
+        String[] before = {"1+[5]", "{<1>}", "1+2*3", "[1]+<1>", "(((", "[4]*[1]", "1-(2-{3", "<0>", "1/0", "1*",
+            "{[1]}", "[1]*[1]*[1]*[1]", Checks.GREATEST + "+1"};
+        String[] then = {"7", "[1]", "<201>", "2+[1]", "2*<1>", "{<1>}", "(3)", "1-1"};
+        int[] terms = {1, 1, 1, 2, 1, 1, 1, 0};
+        for (String text : before) {
+            DensitiesOfNets x = Checks.fresh();
+            for (int i = 0; i < then.length; i++) {
+                Checks.read(x, 0, text);
+                Checks.due("read of " + then[i] + " behind " + text, Checks.read(x, 1, then[i]), terms[i]);
+                Checks.isAs(then[i] + " behind " + text, held(x), held(Checks.holding(null, then[i])));
+                x = Checks.fresh();
+            }
+        }
+    }
+
+    /** STORE 1 alone, on THE TAPE nothing. */
+    private static DensitiesOfNets held(DensitiesOfNets x) {
+        x.clear(0);
+        return x;
     }
 }
