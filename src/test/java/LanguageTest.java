@@ -4,8 +4,11 @@ import java.lang.reflect.Method;
 import java.lang.reflect.Modifier;
 import java.nio.file.Files;
 import java.nio.file.Path;
+import java.util.ArrayList;
 import java.util.Arrays;
+import java.util.List;
 import java.util.Random;
+import java.util.Set;
 import java.util.TreeSet;
 import java.util.regex.Matcher;
 import java.util.regex.Pattern;
@@ -40,6 +43,9 @@ public final class LanguageTest {
     public static void main(String[] args) throws Exception {
         face();
         source();
+        library();
+        methods();
+        fields();
         oddArguments();
         System.out.println(wrong == 0 ? "the language is kept" : wrong + " rules are broken");
         System.exit(wrong == 0 ? 0 : 1);
@@ -50,6 +56,7 @@ public final class LanguageTest {
         TreeSet<String> seen = new TreeSet<>();
         for (Method method : DensitiesOfNets.class.getDeclaredMethods()) {
             if (Modifier.isPublic(method.getModifiers())) {
+                must(!Modifier.isStatic(method.getModifiers()), method + " is static");
                 StringBuilder text = new StringBuilder(method.getReturnType() + " " + method.getName() + "(");
                 for (int i = 0; i < method.getParameterCount(); i++) {
                     text.append(i == 0 ? "" : ",").append(method.getParameterTypes()[i]);
@@ -70,6 +77,8 @@ public final class LanguageTest {
             must(Modifier.isPublic(how) || Modifier.isPrivate(how), field + " is neither public nor private");
             must(!Modifier.isStatic(how) || Modifier.isFinal(how), field + " is static, but not final");
             if (Modifier.isPublic(how)) {
+                must(Modifier.isStatic(how), field + " is no constant");
+                must(field.getType() == (field.getName().equals("NO") ? long.class : int.class), field + "'s type");
                 constants.add(field.getName());
             }
         }
@@ -78,7 +87,10 @@ public final class LanguageTest {
                 && DensitiesOfNets.FULL == -4 && DensitiesOfNets.OVER == -6
                 && DensitiesOfNets.NO == Long.MIN_VALUE, "the constants have other values");
         Constructor<?>[] constructors = DensitiesOfNets.class.getDeclaredConstructors();
-        must(constructors.length == 1 && constructors[0].getParameterCount() == 0, "constructors");
+        must(constructors.length == 1 && constructors[0].getParameterCount() == 0
+                && Modifier.isPublic(constructors[0].getModifiers()), "constructors");
+        int own = DensitiesOfNets.class.getModifiers();
+        must(Modifier.isPublic(own) && Modifier.isFinal(own), "the class is not public and final");
         for (Class<?> inner : DensitiesOfNets.class.getDeclaredClasses()) {
             must(Modifier.isStatic(inner.getModifiers()), inner + " is not static");
             must(!Modifier.isPublic(inner.getModifiers()), inner + " is public");
@@ -91,7 +103,7 @@ public final class LanguageTest {
 
     private static void source() throws Exception {
         String text = Files.readString(Path.of(SOURCE));
-        String code = text.replaceAll("(?s)/\\*.*?\\*/", "").replaceAll("//[^\n]*", "");
+        String code = code();
         String[] words = {
             "\\bthrows?\\b", "\\btry\\b", "\\bcatch\\b", "\\bfinally\\b", "\\bsynchronized\\b", "\\bassert\\b",
             "\\bimport\\b", "\\bpackage\\b", "->", "::", "Exact\\b", "\\bSystem\\.(?!arraycopy)", "\\bThread\\b",
@@ -103,6 +115,83 @@ public final class LanguageTest {
         }
         must(text.chars().allMatch(sign -> sign == '\n' || sign >= 32 && sign < 127), "the source has other signs");
         must(text.lines().allMatch(line -> line.length() <= 120), "the source has long lines");
+    }
+
+    private static String code() throws Exception {
+        return Files.readString(Path.of(SOURCE)).replaceAll("(?s)/\\*.*?\\*/", "").replaceAll("//[^\n]*", "");
+    }
+
+    private static List<Class<?>> classes() {
+        List<Class<?>> all = new ArrayList<>(List.of(DensitiesOfNets.class.getDeclaredClasses()));
+        all.add(DensitiesOfNets.class);
+        return all;
+    }
+
+    private static void library() throws Exception {
+        Set<String> own = new TreeSet<>();
+        for (Class<?> one : classes()) {
+            own.add(one.getSimpleName());
+        }
+        Set<String> allowed = Set.of("Integer.bitCount", "Math.abs", "Math.max", "Math.min", "Math.floorDiv",
+                "Math.floorMod", "Long.MIN_VALUE");
+        Matcher matcher = Pattern.compile("\\b([A-Z][a-z]\\w*)\\.(\\w+)").matcher(code());
+        while (matcher.find()) {
+            must(own.contains(matcher.group(1)) || allowed.contains(matcher.group()), "library: " + matcher.group());
+        }
+        Matcher made = Pattern.compile("\\bnew (\\w+)").matcher(code());
+        while (made.find()) {
+            must(own.contains(made.group(1)) || made.group(1).matches("int|long|boolean"), "library: " + made.group());
+        }
+    }
+
+    /** Short, with few parameters, not calling themselves; objects are made for fields and by constructors alone. */
+    private static void methods() throws Exception {
+        Pattern header = Pattern.compile(
+                "( +)(?:(?:public|private|static|final) )*(?:[\\w\\[\\]]+ )?(\\w+)\\((.*)\\) \\{");
+        String name = "";
+        String indent = "";
+        int first = 0;
+        int many = 0;
+        String[] lines = code().split("\n");
+        for (int i = 0; i < lines.length; i++) {
+            Matcher matcher = header.matcher(lines[i]);
+            if (name.isEmpty() && matcher.matches()) {
+                indent = matcher.group(1);
+                name = matcher.group(2);
+                first = i;
+                many++;
+                must(matcher.group(3).split(",").length <= 7, name + " has too many parameters");
+            } else if (!name.isEmpty()) {
+                must(!lines[i].matches(".*(?<![.\\w])" + name + "\\(.*"), name + " calls itself");
+            }
+            boolean makes = lines[i].contains("new ");
+            must(!makes || name.isEmpty() || name.equals("allRenamings") || Character.isUpperCase(name.charAt(0)),
+                    name + " makes an object");
+            if (lines[i].equals(indent + "}")) {
+                must(i - first <= 60, name + " is too long");
+                name = "";
+            }
+        }
+        must(many > 100, "the methods are no longer seen: " + many);
+    }
+
+    private static void fields() {
+        for (Class<?> one : classes()) {
+            int many = 0;
+            for (Field field : one.getDeclaredFields()) {
+                boolean isStatic = Modifier.isStatic(field.getModifiers());
+                many += isStatic ? 0 : 1;
+                Class<?> type = field.getType();
+                boolean isTable = type == int[][].class;
+                Class<?> held = isTable ? int.class : type.isArray() ? type.getComponentType() : type;
+                must(held == int.class || held == long.class || held == boolean.class || classes().contains(held),
+                        field + " is of a type that is not listed");
+                must(!isStatic || Modifier.isFinal(field.getModifiers()) && (type == int.class || type == long.class),
+                        field + " is no constant");
+            }
+            must(many <= 20, one + " has too many fields");
+            must(one.getSuperclass() == Object.class, one + " has another class above it");
+        }
     }
 
     /** With what is far off as with what is near, in any state. */
